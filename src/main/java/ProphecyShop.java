@@ -1226,8 +1226,16 @@ public final class ProphecyShop {
             }
         }
 
+        final void takeWord(String word) {
+            if (sees(word)) {
+                next();
+            } else {
+                fail(SYNTAX);
+            }
+        }
+
         /** Takes a word of which only so many are allowed, when some were taken before. */
-        final void takeWord(String word, int before, int limit) {
+        final void takeCounted(String word, int before, int limit) {
             if (!sees(word)) {
                 fail(SYNTAX);
             } else if (before >= limit) {
@@ -1257,7 +1265,7 @@ public final class ProphecyShop {
         /** Takes a name that no other one of the same kind has; answers its code. */
         final int takeNewName(Names names) {
             int code = codeOfName();
-            if (code != 0 && names.find(code) != NONE) {
+            if (names.find(code) != NONE) {
                 fail(WRONG_NAME);
             }
             if (error == 0) {
@@ -1313,7 +1321,7 @@ public final class ProphecyShop {
         }
 
         private void readShop(Setup setup) {
-            takeWord("shop", 0, 1);
+            takeWord("shop");
             setup.cash = takeNumber(0, 99999);
             setup.rate = takeNumber(1, 9);
             setup.grace = takeNumber(0, 99);
@@ -1327,7 +1335,7 @@ public final class ProphecyShop {
                 fail(SYNTAX);
             }
             for (int n = 0; n <= KIND_LIMIT && sees(word); n++) {
-                takeWord(word, n, KIND_LIMIT);
+                takeCounted(word, n, KIND_LIMIT);
                 names.add(takeNewName(names));
                 takeSign(';');
             }
@@ -1335,7 +1343,7 @@ public final class ProphecyShop {
 
         private void readCustomers(Setup setup) {
             for (int n = 0; n <= CUSTOMER_LIMIT && sees("customer"); n++) {
-                takeWord("customer", n, CUSTOMER_LIMIT);
+                takeCounted("customer", n, CUSTOMER_LIMIT);
                 int name = takeNewName(setup.customers);
                 int purse = takeNumber(0, 9999);
                 int distance = takeNumber(1, 30);
@@ -1346,7 +1354,7 @@ public final class ProphecyShop {
 
         private void readOwls(Setup setup) {
             for (int n = 0; n <= OWL_LIMIT && sees("owl"); n++) {
-                takeWord("owl", n, OWL_LIMIT);
+                takeCounted("owl", n, OWL_LIMIT);
                 int speed = takeNumber(1, 9);
                 takeSign(';');
                 setup.addOwl(speed);
@@ -1436,7 +1444,7 @@ public final class ProphecyShop {
         }
 
         private Step addCommand(String word, int act) {
-            takeWord(word, commandCount, COMMAND_LIMIT);
+            takeCounted(word, commandCount, COMMAND_LIMIT);
             commandCount++;
             return addStep(act);
         }
@@ -1461,14 +1469,14 @@ public final class ProphecyShop {
 
         private int takeProphecyKind() {
             if (sees("vague")) {
-                takeWord("vague", 0, 1);
+                takeWord("vague");
                 return VAGUE;
             }
             if (sees("never")) {
-                takeWord("never", 0, 1);
+                takeWord("never");
                 return DENIAL;
             }
-            takeWord("plain", 0, 1);
+            takeWord("plain");
             return PLAIN;
         }
 

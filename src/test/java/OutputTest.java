@@ -13,6 +13,7 @@ public final class OutputTest {
         whatUndoLeaves();
         saveAndRestore();
         slotsAreCopies();
+        slotsOfDifferentShops();
         wrongSlots();
         Checks.end("OutputTest");
     }
@@ -238,6 +239,62 @@ public final class OutputTest {
         s.happen(0, 0);
         s.undo();
         Checks.due("54: undo after restore", View.ofState(s), saved);
+    }
+
+    /** The two slots have nothing in common but the setup. */
+    private static void slotsOfDifferentShops() {
+        ProphecyShop s = new ProphecyShop();
+        s.save(0);
+        s.sellPlain(1, 0, 2, 0, 1, 30);
+        s.sellDenial(1, 1, 1, 1, 2, 20);
+        s.sellVague(0, 1, 0, 1, 7);
+        s.happen(0, 0);
+        s.happen(0, 1);
+        s.advance(1);
+        s.ask(0);
+        s.ask(2);
+        s.advance(1);
+        s.happen(1, 1);
+        s.ask(1);
+        s.save(1);
+        String first = viewAndFuture(s);
+        s.restore(0);
+        s.advance(4);
+        s.sellVague(2, 1, 3, 4, 5);
+        s.sellPlain(0, 1, 0, 0, 1, 6);
+        s.sellPlain(2, 0, 1, 0, 9, 7);
+        s.happen(1, 2);
+        s.happen(0, 2);
+        s.advance(3);
+        s.ask(1);
+        s.ask(0);
+        s.advance(2);
+        s.happen(0, 1);
+        s.save(0);
+        String second = viewAndFuture(s);
+        for (int i = 0; i < 2; i++) {
+            s.restore(1);
+            Checks.due("56: slot 1", viewAndFuture(s), first);
+            s.restore(0);
+            Checks.due("56: slot 0", viewAndFuture(s), second);
+        }
+    }
+
+    /** The view of the shop with all its happenings, and of the twelve days that it then lets pass. */
+    private static String viewAndFuture(ProphecyShop s) {
+        StringBuilder v = new StringBuilder(View.ofState(s));
+        for (int event = 0; event < 2; event++) {
+            for (int place = 0; place < 3; place++) {
+                for (int day = 0; day < 12; day++) {
+                    v.append(s.hasHappened(event, place, day) ? '1' : '0');
+                }
+            }
+        }
+        for (int i = 0; i < 12; i++) {
+            s.advance(1);
+            v.append('\n').append(View.ofState(s));
+        }
+        return v.toString();
     }
 
     private static void wrongSlots() {

@@ -16,6 +16,7 @@ public final class ScriptTest {
         errorsOfOtherCommands();
         errorsOfRepeat();
         tooManyCommands();
+        scriptAfterScript();
         Checks.end("ScriptTest");
     }
 
@@ -161,6 +162,8 @@ public final class ScriptTest {
     private static void errorsOfOtherCommands() {
         error(SYNTAX, "|;");
         error(SYNTAX, "|wait 1;");
+        error(SYNTAX, "|mass 1;");
+        error(SYNTAX, "|tell ada vague rain 0 1 1;");
         error(SYNTAX, "|repeating 1;");
         error(SYNTAX, "|7;");
         error(SYNTAX, "|)");
@@ -243,5 +246,26 @@ public final class ScriptTest {
         }
         run(nested.toString(), 0);
         error(MANY, nested + "|repeat 1();");
+    }
+
+    /** Nothing of a script, right or wrong, is left in the next one. */
+    private static void scriptAfterScript() {
+        ProphecyShop s = new ProphecyShop();
+        StringBuilder thirty = new StringBuilder();
+        StringBuilder closed = new StringBuilder();
+        for (int i = 0; i < 15; i++) {
+            thirty.append("repeat 0();repeat 1();");
+            closed.append("repeat 1(pass 1;);");
+        }
+        String last = thirty.substring(0, thirty.length() - "repeat 1();".length()) + "pass 1;";
+        for (int i = 0; i < 3; i++) {
+            Checks.due("5: thirty commands", Checks.script(s, last), 1);
+            Checks.due("5: fifteen in brackets", Checks.script(s, closed.toString()), 15);
+            Checks.due("5: a bracket is not closed", Checks.script(s, "repeat 1(repeat 1("), NONE);
+            Checks.due("5: a bracket is closed too often", Checks.script(s, ");"), NONE);
+            Checks.due("7: the bracket", s.errorPosition(), 0);
+            Checks.due("5: two brackets", Checks.script(s, "repeat 1(repeat 2(pass 1;););"), 2);
+        }
+        Checks.due("8: all days", s.day(), 3 * 18);
     }
 }

@@ -16,6 +16,7 @@ public final class SetupTest {
         errorsOfCustomersAndOwls();
         errorsOfTokens();
         tooMany();
+        loadAgainAndAgain();
         latestErrorOnly();
         Checks.end("SetupTest");
     }
@@ -128,6 +129,7 @@ public final class SetupTest {
         error(SYNTAX, "  \n|");
         error(SYNTAX, "|store 1 1 1 1 1;");
         error(SYNTAX, "|sho");
+        error(SYNTAX, "|chop 1 1 1 1 1;");
         error(SYNTAX, "|shops 1");
         error(SYNTAX, "|shopx 1");
         error(SYNTAX, "shop|");
@@ -163,6 +165,7 @@ public final class SetupTest {
         error(SYNTAX, HEAD + "event rain;|");
         error(SYNTAX, HEAD + "event rain;|customer ada 1 1;");
         error(NAME, HEAD + "event rain;event |rain;");
+        error(NAME, HEAD + "event a;event |a;");
         error(NAME, HEAD + "event rain;event war;event |rain");
         error(SYNTAX, HEAD + "event rain;place|");
         error(RANGE, HEAD + "event rain;place |abcdefg;");
@@ -236,6 +239,27 @@ public final class SetupTest {
         good(places);
         good(customers);
         good(owls);
+    }
+
+    /** Nothing of a setup, right or wrong, is left in the next one. */
+    private static void loadAgainAndAgain() {
+        ProphecyShop s = new ProphecyShop();
+        for (int i = 0; i < 4; i++) {
+            Checks.put(s, SHORT + "customer ada 9 9;customer ben 9 9;owl 1;owl 2;owl 3;owl 4;owl 10;");
+            Checks.due("4: an error at the end", s.load(), RANGE);
+            Checks.put(s, SHORT + "place mill;customer ada 9 1;owl 5;owl 5;owl 5;owl 5;");
+            Checks.due("4: the same names again", s.load(), 0);
+            Checks.due("10: events", s.eventCount(), 1);
+            Checks.due("11: places", s.placeCount(), 2);
+            Checks.due("12: customers", s.customerCount(), 1);
+            Checks.due("32: owls", s.idleOwls(), 4);
+            s.sellPlain(0, 0, 0, 0, 1, 2);
+            Checks.due("30: no answer is left", s.answerFor(0), ProphecyShop.NO_ANSWER);
+            Checks.due("25: no state is left", s.stateOf(0), ProphecyShop.OPEN);
+            s.ask(0);
+            s.advance(1);
+            Checks.due("30: an answer for the next one to forget", s.answerFor(0), ProphecyShop.PAID);
+        }
     }
 
     private static void latestErrorOnly() {

@@ -165,9 +165,9 @@ public final class TextTest {
         ProphecyShop s = Checks.loaded("shop 1 1 1 1 1;event abcdef;place abcdef;customer abcdef 1 1;"
             + "customer b 1 1;customer zzzzzz 1 1;customer a 1 1;customer aa 1 1;");
         String[] texts = {"abcdef", "b", "zzzzzz", "a", "aa", "", "abcde", "abcdefg", "abcdefghijkl", " b", "b ",
-            "c", "aaa", "B", "b1", "ab", "\u00e9", "b;", "zzzzzzz", "aaaaaa"};
+            "c", "aaa", "B", "b1", "ab", "\u00e9", "b;", "zzzzzzz", "aaaaaa", "dabcdef", "`a", "{", "`"};
         int[] want = {0, 1, 2, 3, 4, NONE, NONE, NONE, NONE, NONE, NONE,
-            NONE, NONE, NONE, NONE, NONE, NONE, NONE, NONE, NONE};
+            NONE, NONE, NONE, NONE, NONE, NONE, NONE, NONE, NONE, NONE, NONE, NONE, NONE};
         for (int i = 0; i < texts.length; i++) {
             s.truncate(0);
             Checks.put(s, texts[i]);
