@@ -670,6 +670,10 @@ public final class ProphecyShop {
             return event == someEvent && (kind == VAGUE || place == somePlace);
         }
 
+        boolean isOverdue(int day) {
+            return state == OPEN && last < day;
+        }
+
         /** A denial is true just when its event did not happen. */
         void decide(boolean happened, int day) {
             state = happened == (kind != DENIAL) ? FULFILLED : FAILED;
@@ -1038,7 +1042,7 @@ public final class ProphecyShop {
 
         private void decideOverdue() {
             for (int i = 0; i < soldCount; i++) {
-                if (sold[i].state == OPEN && sold[i].last < day) {
+                if (sold[i].isOverdue(day)) {
                     sold[i].decide(false, day);
                 }
             }
@@ -1059,7 +1063,7 @@ public final class ProphecyShop {
         int countOverdue() {
             int count = 0;
             for (int i = 0; i < soldCount; i++) {
-                if (sold[i].state == OPEN && sold[i].last < day) {
+                if (sold[i].isOverdue(day)) {
                     count++;
                 }
             }
@@ -1389,7 +1393,7 @@ public final class ProphecyShop {
     /** Reads the text as a script and executes it. */
     private static final class Script extends Reader {
         private static final int STEP_LIMIT = 2 * COMMAND_LIMIT;
-        // Two nested repeats of nothing but empty repeats make some 24,000 moves.
+        // Two nested repeats of nothing but empty repeats make some 12,000 moves.
         private static final int MOVE_LIMIT = 1000000;
 
         private final Step[] steps = new Step[STEP_LIMIT];
