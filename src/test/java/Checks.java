@@ -1,4 +1,7 @@
 import java.nio.charset.StandardCharsets;
+import java.util.NoSuchElementException;
+import java.util.function.Consumer;
+import java.util.function.Supplier;
 
 /** What the tests share: comparing answers, and putting texts into a shop. */
 final class Checks {
@@ -56,6 +59,33 @@ final class Checks {
         refused(what, shop, IllegalStateException.class, call);
     }
 
+    /**
+     * The call throws exactly this exception on a shop, and then nothing, down to the oldest change and the slots,
+     * tells that shop from another one that was made in the same way.
+     */
+    static void refused(String what, Supplier<ProphecyShop> made, Class<? extends RuntimeException> want,
+            Consumer<ProphecyShop> call) {
+        ProphecyShop shop = made.get();
+        due(what + " throws", nameOfThrown(() -> call.accept(shop)), want.getSimpleName());
+        due(what + " changes nothing", View.ofAll(shop), View.ofAll(made.get()));
+    }
+
+    static void missing(String what, Supplier<ProphecyShop> made, Consumer<ProphecyShop> call) {
+        refused(what, made, IndexOutOfBoundsException.class, call);
+    }
+
+    static void badArgument(String what, Supplier<ProphecyShop> made, Consumer<ProphecyShop> call) {
+        refused(what, made, IllegalArgumentException.class, call);
+    }
+
+    static void badState(String what, Supplier<ProphecyShop> made, Consumer<ProphecyShop> call) {
+        refused(what, made, IllegalStateException.class, call);
+    }
+
+    static void noSuchElement(String what, Supplier<ProphecyShop> made, Consumer<ProphecyShop> call) {
+        refused(what, made, NoSuchElementException.class, call);
+    }
+
     static String nameOfThrown(Call call) {
         try {
             call.run();
@@ -89,6 +119,13 @@ final class Checks {
         return shop;
     }
 
+    /** A shop that lived through a script, which must be free of errors. */
+    static ProphecyShop after(String script) {
+        ProphecyShop shop = new ProphecyShop();
+        due("no error in " + script, script(shop, script) != ProphecyShop.NONE, true);
+        return shop;
+    }
+
     static int script(ProphecyShop shop, String script) {
         put(shop, script);
         return shop.runScript();
@@ -96,8 +133,10 @@ final class Checks {
 
     static String output(ProphecyShop shop) {
         StringBuilder text = new StringBuilder();
-        for (int i = 0; shop.outputByte(i) != ProphecyShop.NONE; i++) {
-            text.append((char) shop.outputByte(i));
+        int got = shop.outputByte(0);
+        for (int i = 1; got != ProphecyShop.NONE && i <= 100; i++) {
+            text.append((char) got);
+            got = shop.outputByte(i);
         }
         return text.toString();
     }

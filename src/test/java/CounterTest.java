@@ -66,12 +66,12 @@ public final class CounterTest {
     private static void happeningIsRefused() {
         ProphecyShop s = new ProphecyShop();
         s.happen(1, 2);
-        Checks.badState("47: twice on a day", s, () -> s.happen(1, 2));
-        Checks.missing("47: event below", s, () -> s.happen(-1, 0));
-        Checks.missing("47: event above", s, () -> s.happen(2, 0));
-        Checks.missing("47: place below", s, () -> s.happen(0, -1));
-        Checks.missing("47: place above", s, () -> s.happen(0, 3));
-        Checks.missing("47: far", s, () -> s.happen(Integer.MAX_VALUE, Integer.MIN_VALUE));
+        Checks.badState("47: twice on a day", () -> Checks.after("happen war pass;"), t -> t.happen(1, 2));
+        Checks.missing("47: event below", ProphecyShop::new, t -> t.happen(-1, 0));
+        Checks.missing("47: event above", ProphecyShop::new, t -> t.happen(2, 0));
+        Checks.missing("47: place below", ProphecyShop::new, t -> t.happen(0, -1));
+        Checks.missing("47: place above", ProphecyShop::new, t -> t.happen(0, 3));
+        Checks.missing("47: far", ProphecyShop::new, t -> t.happen(Integer.MAX_VALUE, Integer.MIN_VALUE));
         Checks.due("47: another event", s.happen(0, 2), 0);
         Checks.due("47: another place", s.happen(1, 1), 0);
         s.advance(1);
@@ -137,9 +137,9 @@ public final class CounterTest {
         Checks.due("29: second", s.placeInQueue(0), 1);
         Checks.due("29: third", s.placeInQueue(23), 2);
         Checks.due("29: not in it", s.placeInQueue(1), NONE);
-        Checks.badState("48: it is in the queue", s, () -> s.ask(0));
-        Checks.badState("48: the last is in the queue", s, () -> s.ask(23));
-        Checks.missing("48: none", s, () -> s.ask(24));
+        Checks.due("48: it is in the queue", Checks.nameOfThrown(() -> s.ask(0)), "IllegalStateException");
+        Checks.due("48: the last is in the queue", Checks.nameOfThrown(() -> s.ask(23)), "IllegalStateException");
+        Checks.due("48: none", Checks.nameOfThrown(() -> s.ask(24)), "IndexOutOfBoundsException");
         Checks.due("49: one is handled", s.advance(1), 1);
         Checks.due("29: the first has left", s.placeInQueue(3), NONE);
         Checks.due("29: the second is first", s.placeInQueue(0), 0);
@@ -370,7 +370,7 @@ public final class CounterTest {
         ProphecyShop s = new ProphecyShop();
         int[] wrong = {Integer.MIN_VALUE, -1, 0, 61, Integer.MAX_VALUE};
         for (int days : wrong) {
-            Checks.badArgument("49: days " + days, s, () -> s.advance(days));
+            Checks.badArgument("49: days " + days, ProphecyShop::new, t -> t.advance(days));
         }
         Checks.due("49: nothing to handle", s.advance(1), 0);
         s.sellPlain(1, 0, 0, 0, 60, 1);
@@ -382,16 +382,13 @@ public final class CounterTest {
         Checks.due("49: in all days together", s.advance(60), 3);
         Checks.due("8: sixty days", s.day(), 61);
         Checks.due("49: change", s.undoCount(), 8);
-        for (int i = 0; i < 165; i++) {
-            s.advance(60);
-        }
-        Checks.due("8: day", s.day(), 9961);
-        Checks.badState("49: day 10000", s, () -> s.advance(39));
-        Checks.badState("49: day 10021", s, () -> s.advance(60));
-        Checks.badArgument("49: the argument first", s, () -> s.advance(61));
+        Shops.passTo(s, 9961);
+        Checks.badState("49: day 10000", () -> Shops.onDay(9961), t -> t.advance(39));
+        Checks.badState("49: day 10021", () -> Shops.onDay(9961), t -> t.advance(60));
+        Checks.badArgument("49: the argument first", () -> Shops.onDay(9961), t -> t.advance(61));
         s.advance(38);
         Checks.due("49: day 9999", s.day(), 9999);
-        Checks.badState("49: no day more", s, () -> s.advance(1));
+        Checks.badState("49: no day more", () -> Shops.onDay(9999), t -> t.advance(1));
     }
 
     private static void expectedAnswers() {
@@ -426,8 +423,8 @@ public final class CounterTest {
         Checks.due("34: idle at first", s.owlCoins(1), 0);
         int[] wrong = {Integer.MIN_VALUE, -1, 2, 4, 5, Integer.MAX_VALUE};
         for (int owl : wrong) {
-            Checks.missing("33: owl " + owl, s, () -> s.owlDays(owl));
-            Checks.missing("34: owl " + owl, s, () -> s.owlCoins(owl));
+            Checks.missing("33: owl " + owl, ProphecyShop::new, t -> t.owlDays(owl));
+            Checks.missing("34: owl " + owl, ProphecyShop::new, t -> t.owlCoins(owl));
         }
         ProphecyShop none = Checks.loaded("shop 1 1 1 1 1;event a;place a;");
         Checks.due("32: no owls", none.idleOwls(), 0);

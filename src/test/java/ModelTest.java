@@ -1,15 +1,24 @@
+import java.util.ArrayList;
+import java.util.Collections;
+import java.util.List;
 import java.util.Random;
 import java.util.concurrent.Callable;
 
-/** Random runs of calls, each answer compared with the Model's: all promises together. */
+/**
+ * Random runs of calls, each answer compared with the Model's: all promises together. Each run ends with the 512th call
+ * of its object, as nothing is promised beyond it.
+ */
 public final class ModelTest {
-    private static final int RUNS = 400;
+    private static final int RUNS = 3000;
+    private static final int CALLS = 512;
+    private static final int ROUNDS = 60;
     private static final String[] STATES = {"open", "fulfilled", "failed", "refunded"};
 
     private final Random random;
     private final String run;
     private final ProphecyShop shop = new ProphecyShop();
     private final Model model = new Model();
+    private int calls = 0;
 
     private ModelTest(int seed) {
         random = new Random(seed);
@@ -23,16 +32,34 @@ public final class ModelTest {
         Checks.end("ModelTest");
     }
 
+    /** Changes with a few looks between them, and then as many looks as there are calls left. */
     private void run() {
-        // Each round makes a handful of calls that count; the looks in between are more than 512, which may be.
-        for (int round = 0; round < 60; round++) {
+        for (int round = 0; round < ROUNDS && calls < CALLS - 150; round++) {
             oneCall();
-            compareNumbers();
-            compareProphecies();
-            if (round % 6 == 0) {
-                compareForecasts();
-            }
+            look(3);
         }
+        look(Integer.MAX_VALUE);
+    }
+
+    private void look(int most) {
+        List<Runnable> looks = new ArrayList<>();
+        addNumbers(looks);
+        addHappenings(looks);
+        addFigures(looks);
+        for (int p = 0; p < model.state.sold.size(); p++) {
+            addProphecy(looks, p, model.state.sold.get(p));
+        }
+        Collections.shuffle(looks, random);
+        // No look makes more than 70 calls.
+        for (int i = 0; i < looks.size() && i < most && calls < CALLS - 70; i++) {
+            looks.get(i).run();
+        }
+    }
+
+    /** The object, to be called once. */
+    private ProphecyShop shop() {
+        calls++;
+        return shop;
     }
 
     private void same(String call, Callable<Integer> got, Callable<Integer> want) {
@@ -63,171 +90,189 @@ public final class ModelTest {
         int slot = pick(2);
         switch (random.nextInt(20)) {
             case 0: case 1:
-                same("sellPlain", () -> shop.sellPlain(customer, event, place, delay, length, price),
+                same("sellPlain", () -> shop().sellPlain(customer, event, place, delay, length, price),
                     () -> model.change("plain", customer, event, place, delay, length, price));
                 break;
             case 2: case 3:
-                same("sellVague", () -> shop.sellVague(customer, event, delay, length, price),
+                same("sellVague", () -> shop().sellVague(customer, event, delay, length, price),
                     () -> model.change("vague", customer, event, 0, delay, length, price));
                 break;
             case 4: case 5:
-                same("sellDenial", () -> shop.sellDenial(customer, event, place, delay, length, price),
+                same("sellDenial", () -> shop().sellDenial(customer, event, place, delay, length, price),
                     () -> model.change("never", customer, event, place, delay, length, price));
                 break;
             case 6: case 7:
-                same("happen", () -> shop.happen(event, place), () -> model.change("happen", event, place));
+                same("happen", () -> shop().happen(event, place), () -> model.change("happen", event, place));
                 break;
             case 8: case 9: case 10:
-                same("ask", () -> shop.ask(prophecy), () -> model.change("ask", prophecy));
+                same("ask", () -> shop().ask(prophecy), () -> model.change("ask", prophecy));
                 break;
             case 11: case 12: case 13:
-                same("advance", () -> shop.advance(days), () -> model.change("pass", days));
+                same("advance", () -> shop().advance(days), () -> model.change("pass", days));
                 break;
             case 14:
-                same("undo", shop::undo, model::undo);
+                same("undo", () -> shop().undo(), model::undo);
                 break;
             case 15:
-                same("save", () -> shop.save(slot), () -> model.save(slot));
+                same("save", () -> shop().save(slot), () -> model.save(slot));
                 break;
             case 16:
-                same("restore", () -> shop.restore(slot), () -> model.restore(slot));
+                same("restore", () -> shop().restore(slot), () -> model.restore(slot));
                 break;
             case 17:
                 if (random.nextInt(3) == 0) {
                     put(spoiled(setup()));
-                    same("load", shop::load, model::load);
+                    same("load", () -> shop().load(), model::load);
                 }
                 break;
             default:
                 put(spoiled(script(0)));
-                same("runScript", shop::runScript, model::runScript);
+                same("runScript", () -> shop().runScript(), model::runScript);
                 break;
         }
     }
 
     private void put(String text) {
         String fitting = text.substring(0, Math.min(800, text.length()));
+        calls += (fitting.length() + 19) / 20;
         Checks.put(shop, fitting);
         model.text = fitting;
     }
 
-    private void compareNumbers() {
-        Model.State m = model.state;
-        Checks.due(run + ": errorCode", shop.errorCode(), model.errorCode);
-        Checks.due(run + ": errorPosition", shop.errorPosition(), model.errorPosition);
-        Checks.due(run + ": text", shop.append(0, 0, 0, 0, 0), model.text.length());
-        Checks.due(run + ": undoCount", shop.undoCount(), model.undoCount());
-        Checks.due(run + ": day", shop.day(), m.day);
-        Checks.due(run + ": cash", shop.cash(), m.cash);
-        Checks.due(run + ": eventCount", shop.eventCount(), model.facts.events.size());
-        Checks.due(run + ": placeCount", shop.placeCount(), model.facts.places.size());
-        Checks.due(run + ": customerCount", shop.customerCount(), m.purses.length);
-        for (int c = 0; c < m.purses.length; c++) {
-            Checks.due(run + ": purse " + c, shop.purse(c), m.purses[c]);
-        }
-        int idle = 0;
-        for (int owl = 0; owl < m.flights.length; owl++) {
-            Model.Flight f = m.flights[owl];
-            boolean outward = f != null && f.arrival > m.day;
-            idle += f == null ? 1 : 0;
-            Checks.due(run + ": owlDays", shop.owlDays(owl), f == null ? 0 : (outward ? f.arrival : f.home) - m.day);
-            Checks.due(run + ": owlCoins", shop.owlCoins(owl), outward ? f.coins : 0);
-        }
-        Checks.due(run + ": idleOwls", shop.idleOwls(), idle);
-        Checks.due(run + ": handledRequests", shop.handledRequests(), m.handled);
-        Checks.due(run + ": refundTotal", shop.refundTotal(), m.refunds);
-        Checks.due(run + ": contradictions", shop.contradictions(), 0);
-        compareHappenings(m);
+    private void addLook(List<Runnable> looks, String what, Callable<Integer> got, int want) {
+        looks.add(() -> Checks.due(run + ": " + what, answer(got), Integer.toString(want)));
     }
 
-    private void compareHappenings(Model.State m) {
+    private void addNumbers(List<Runnable> looks) {
+        Model.State m = model.state;
+        addLook(looks, "errorCode", () -> shop().errorCode(), model.errorCode);
+        addLook(looks, "errorPosition", () -> shop().errorPosition(), model.errorPosition);
+        addLook(looks, "text", () -> shop().append(0, 0, 0, 0, 0), model.text.length());
+        addLook(looks, "undoCount", () -> shop().undoCount(), model.undoCount());
+        addLook(looks, "day", () -> shop().day(), m.day);
+        addLook(looks, "cash", () -> shop().cash(), m.cash);
+        addLook(looks, "eventCount", () -> shop().eventCount(), model.facts.events.size());
+        addLook(looks, "placeCount", () -> shop().placeCount(), model.facts.places.size());
+        addLook(looks, "customerCount", () -> shop().customerCount(), m.purses.length);
+        for (int c = 0; c < m.purses.length; c++) {
+            int customer = c;
+            addLook(looks, "purse " + c, () -> shop().purse(customer), m.purses[c]);
+        }
+        int idle = 0;
+        for (int i = 0; i < m.flights.length; i++) {
+            int owl = i;
+            Model.Flight f = m.flights[i];
+            boolean outward = f != null && f.arrival > m.day;
+            idle += f == null ? 1 : 0;
+            addLook(looks, "owlDays", () -> shop().owlDays(owl), f == null ? 0 : (outward ? f.arrival : f.home) - m.day);
+            addLook(looks, "owlCoins", () -> shop().owlCoins(owl), outward ? f.coins : 0);
+        }
+        addLook(looks, "idleOwls", () -> shop().idleOwls(), idle);
+        addLook(looks, "handledRequests", () -> shop().handledRequests(), m.handled);
+        addLook(looks, "refundTotal", () -> shop().refundTotal(), m.refunds);
+        addLook(looks, "contradictions", () -> shop().contradictions(), 0);
+    }
+
+    private void addHappenings(List<Runnable> looks) {
+        Model.State m = model.state;
         int liveliest = 0;
         int most = -1;
-        for (int place = 0; place < model.facts.places.size(); place++) {
+        for (int p = 0; p < model.facts.places.size(); p++) {
+            int place = p;
             int all = 0;
-            for (int event = 0; event < model.facts.events.size(); event++) {
-                String what = event + " " + place + " ";
+            for (int e = 0; e < model.facts.events.size(); e++) {
+                int event = e;
+                String what = e + " " + p + " ";
                 int times = (int) m.happened.stream().filter(h -> h.startsWith(what)).count();
-                Checks.due(run + ": timesHappened", shop.timesHappened(event, place), times);
+                addLook(looks, "timesHappened", () -> shop().timesHappened(event, place), times);
                 int day = Math.max(0, m.day - random.nextInt(4));
-                Checks.due(run + ": hasHappened", shop.hasHappened(event, place, day), m.happened.contains(what + day));
+                looks.add(() -> Checks.due(run + ": hasHappened", shop().hasHappened(event, place, day),
+                    m.happened.contains(what + day)));
                 all += times;
             }
             if (all > most) {
                 most = all;
-                liveliest = place;
+                liveliest = p;
             }
         }
-        Checks.due(run + ": liveliestPlace", shop.liveliestPlace(), liveliest);
+        addLook(looks, "liveliestPlace", () -> shop().liveliestPlace(), liveliest);
     }
 
-    private void compareProphecies() {
+    private void addFigures(List<Runnable> looks) {
         Model.State m = model.state;
-        Checks.due(run + ": prophecyCount", shop.prophecyCount(), m.sold.size());
         int[] counts = new int[4];
         double prices = 0;
-        for (int p = 0; p < m.sold.size(); p++) {
-            Model.Sold want = m.sold.get(p);
-            compareProphecy(p, want);
+        for (Model.Sold want : m.sold) {
             for (int state = 0; state < 4; state++) {
                 counts[state] += want.state.equals(STATES[state]) ? 1 : 0;
             }
             prices += want.price;
         }
-        for (int state = 0; state < 4; state++) {
-            Checks.due(run + ": countIn " + state, shop.countIn(state), counts[state]);
+        for (int i = 0; i < 4; i++) {
+            int state = i;
+            addLook(looks, "countIn " + i, () -> shop().countIn(state), counts[i]);
         }
         int decided = counts[1] + counts[2] + counts[3];
-        Checks.due(run + ": truthShare", shop.truthShare(), decided == 0 ? 0f : (float) counts[1] / (float) decided);
-        Checks.due(run + ": meanPrice", shop.meanPrice(), m.sold.isEmpty() ? 0.0 : prices / m.sold.size());
+        float truth = decided == 0 ? 0f : (float) counts[1] / (float) decided;
+        double mean = m.sold.isEmpty() ? 0.0 : prices / m.sold.size();
+        looks.add(() -> Checks.due(run + ": truthShare", shop().truthShare(), truth));
+        looks.add(() -> Checks.due(run + ": meanPrice", shop().meanPrice(), mean));
         String queue = m.queue.toString().replaceAll("[\\[\\] ]", "");
-        Checks.due(run + ": writeQueue", shop.writeQueue(), queue.length());
-        Checks.due(run + ": the queue", Checks.output(shop), queue);
-        Checks.due(run + ": queueLength", shop.queueLength(), m.queue.size());
+        looks.add(() -> {
+            Checks.due(run + ": writeQueue", shop().writeQueue(), queue.length());
+            calls += queue.length() + 1;
+            Checks.due(run + ": the queue", Checks.output(shop), queue);
+        });
+        addLook(looks, "queueLength", () -> shop().queueLength(), m.queue.size());
+        addLook(looks, "prophecyCount", () -> shop().prophecyCount(), m.sold.size());
+        int days = random.nextInt(10) == 0 ? 300 : random.nextInt(20);
+        looks.add(() -> Checks.due(run + ": cashAfter " + days, shop().cashAfter(days), cashAfter(days)));
     }
 
-    private void compareProphecy(int p, Model.Sold want) {
-        Checks.due(run + ": customerOf", shop.customerOf(p), want.customer);
-        Checks.due(run + ": eventOf", shop.eventOf(p), want.event);
-        Checks.due(run + ": placeOf", shop.placeOf(p), want.place);
-        Checks.due(run + ": isDenial", shop.isDenial(p), want.kind.equals("never"));
-        Checks.due(run + ": firstDay", shop.firstDay(p), want.first);
-        Checks.due(run + ": lastDay", shop.lastDay(p), want.last);
-        Checks.due(run + ": stateOf", STATES[shop.stateOf(p)], want.state);
+    private void addProphecy(List<Runnable> looks, int p, Model.Sold want) {
+        addLook(looks, "customerOf", () -> shop().customerOf(p), want.customer);
+        addLook(looks, "eventOf", () -> shop().eventOf(p), want.event);
+        addLook(looks, "placeOf", () -> shop().placeOf(p), want.place);
+        looks.add(() -> Checks.due(run + ": isDenial", shop().isDenial(p), want.kind.equals("never")));
+        addLook(looks, "firstDay", () -> shop().firstDay(p), want.first);
+        addLook(looks, "lastDay", () -> shop().lastDay(p), want.last);
+        looks.add(() -> Checks.due(run + ": stateOf", STATES[shop().stateOf(p)], want.state));
         boolean open = want.state.equals("open");
-        Checks.due(run + ": decidedOn", answer(() -> shop.decidedOn(p)),
-            open ? "NoSuchElementException" : Integer.toString(want.decided));
-        Checks.due(run + ": refundOf", shop.refundOf(p), model.state.refund(want));
-        Checks.due(run + ": placeInQueue", shop.placeInQueue(p),
-            new java.util.ArrayList<>(model.state.queue).indexOf(p));
-        Checks.due(run + ": answerFor", shop.answerFor(p), want.answer);
-        Checks.due(run + ": expectedAnswer", shop.expectedAnswer(p), model.state.expected(want));
-        Checks.due(run + ": daysUntilDecided", shop.daysUntilDecided(p), open ? want.last + 1 - model.state.day : 0);
+        looks.add(() -> Checks.due(run + ": decidedOn", answer(() -> shop().decidedOn(p)),
+            open ? "NoSuchElementException" : Integer.toString(want.decided)));
+        addLook(looks, "refundOf", () -> shop().refundOf(p), model.state.refund(want));
+        addLook(looks, "placeInQueue", () -> shop().placeInQueue(p), new ArrayList<>(model.state.queue).indexOf(p));
+        addLook(looks, "answerFor", () -> shop().answerFor(p), want.answer);
+        addLook(looks, "expectedAnswer", () -> shop().expectedAnswer(p), model.state.expected(want));
+        addLook(looks, "daysUntilDecided", () -> shop().daysUntilDecided(p), open ? want.last + 1 - model.state.day : 0);
+        looks.add(() -> Checks.due(run + ": daysUntilRefunded", shop().daysUntilRefunded(p), daysUntilRefunded(p)));
         String written = model.facts.customers.get(want.customer) + (want.kind.equals("never") ? ":!" : ":")
             + model.facts.events.get(want.event) + "@" + (want.place < 0 ? "*" : model.facts.places.get(want.place))
             + " " + want.first + "-" + want.last;
-        shop.writeProphecy(p);
-        Checks.due(run + ": writeProphecy", Checks.output(shop), written);
+        looks.add(() -> {
+            Checks.due(run + ": writeProphecy", shop().writeProphecy(p), written.length());
+            calls += written.length() + 1;
+            Checks.due(run + ": the prophecy", Checks.output(shop), written);
+        });
     }
 
-    private void compareForecasts() {
+    private int cashAfter(int days) {
         Model.State m = model.again();
-        int[] refunded = new int[m.sold.size()];
-        java.util.Arrays.fill(refunded, -1);
+        for (int day = 0; day < days; day++) {
+            m.pass();
+        }
+        return m.cash;
+    }
+
+    private int daysUntilRefunded(int p) {
+        Model.State m = model.again();
         for (int day = 0; day <= 300; day++) {
-            if (day < 20 || day % 37 == 0 || day > 297) {
-                Checks.due(run + ": cashAfter " + day, shop.cashAfter(day), m.cash);
-            }
-            for (int p = 0; p < refunded.length; p++) {
-                if (refunded[p] < 0 && m.sold.get(p).state.equals("refunded")) {
-                    refunded[p] = day;
-                }
+            if (m.sold.get(p).state.equals("refunded")) {
+                return day;
             }
             m.pass();
         }
-        for (int p = 0; p < refunded.length; p++) {
-            Checks.due(run + ": daysUntilRefunded", shop.daysUntilRefunded(p), refunded[p]);
-        }
+        return -1;
     }
 
     // ---- random texts

@@ -1,3 +1,5 @@
+import java.util.function.Supplier;
+
 /** Promises 18 to 27 and 44 to 46: prophecies and their sale. */
 public final class SaleTest {
     private static final int NONE = ProphecyShop.NONE;
@@ -56,106 +58,111 @@ public final class SaleTest {
     }
 
     private static void wrongNumbers() {
-        ProphecyShop s = new ProphecyShop();
         int[] numbers = {Integer.MIN_VALUE, -1, 3, 8, Integer.MAX_VALUE};
         for (int n : numbers) {
-            Checks.missing("44: customer " + n, s, () -> s.sellPlain(n, 0, 0, 0, 1, 1));
-            Checks.missing("45: customer " + n, s, () -> s.sellVague(n, 0, 0, 1, 1));
-            Checks.missing("46: customer " + n, s, () -> s.sellDenial(n, 0, 0, 0, 1, 1));
-            Checks.missing("44: event " + n, s, () -> s.sellPlain(0, n, 0, 0, 1, 1));
-            Checks.missing("45: event " + n, s, () -> s.sellVague(0, n, 0, 1, 1));
-            Checks.missing("46: event " + n, s, () -> s.sellDenial(0, n, 0, 0, 1, 1));
-            Checks.missing("44: place " + n, s, () -> s.sellPlain(0, 0, n, 0, 1, 1));
-            Checks.missing("46: place " + n, s, () -> s.sellDenial(0, 0, n, 0, 1, 1));
+            Checks.missing("44: customer " + n, ProphecyShop::new, s -> s.sellPlain(n, 0, 0, 0, 1, 1));
+            Checks.missing("45: customer " + n, ProphecyShop::new, s -> s.sellVague(n, 0, 0, 1, 1));
+            Checks.missing("46: customer " + n, ProphecyShop::new, s -> s.sellDenial(n, 0, 0, 0, 1, 1));
+            Checks.missing("44: event " + n, ProphecyShop::new, s -> s.sellPlain(0, n, 0, 0, 1, 1));
+            Checks.missing("45: event " + n, ProphecyShop::new, s -> s.sellVague(0, n, 0, 1, 1));
+            Checks.missing("46: event " + n, ProphecyShop::new, s -> s.sellDenial(0, n, 0, 0, 1, 1));
+            Checks.missing("44: place " + n, ProphecyShop::new, s -> s.sellPlain(0, 0, n, 0, 1, 1));
+            Checks.missing("46: place " + n, ProphecyShop::new, s -> s.sellDenial(0, 0, n, 0, 1, 1));
         }
-        Checks.missing("44: no third event", s, () -> s.sellPlain(0, 2, 0, 0, 1, 1));
-        Checks.missing("45: no third event", s, () -> s.sellVague(0, 2, 0, 1, 1));
-        Checks.missing("46: no third event", s, () -> s.sellDenial(0, 2, 0, 0, 1, 1));
+        Checks.missing("44: no third event", ProphecyShop::new, s -> s.sellPlain(0, 2, 0, 0, 1, 1));
+        Checks.missing("45: no third event", ProphecyShop::new, s -> s.sellVague(0, 2, 0, 1, 1));
+        Checks.missing("46: no third event", ProphecyShop::new, s -> s.sellDenial(0, 2, 0, 0, 1, 1));
     }
 
     private static void wrongValues() {
-        ProphecyShop s = new ProphecyShop();
         int[] delays = {Integer.MIN_VALUE, -1, 100, Integer.MAX_VALUE};
         int[] lengths = {Integer.MIN_VALUE, -1, 0, 61, Integer.MAX_VALUE};
         int[] prices = {Integer.MIN_VALUE, -1, 0, 1000, Integer.MAX_VALUE};
         for (int d : delays) {
-            Checks.badArgument("44: delay " + d, s, () -> s.sellPlain(1, 0, 0, d, 1, 1));
-            Checks.badArgument("45: delay " + d, s, () -> s.sellVague(1, 0, d, 1, 1));
-            Checks.badArgument("46: delay " + d, s, () -> s.sellDenial(1, 0, 0, d, 1, 1));
+            Checks.badArgument("44: delay " + d, ProphecyShop::new, s -> s.sellPlain(1, 0, 0, d, 1, 1));
+            Checks.badArgument("45: delay " + d, ProphecyShop::new, s -> s.sellVague(1, 0, d, 1, 1));
+            Checks.badArgument("46: delay " + d, ProphecyShop::new, s -> s.sellDenial(1, 0, 0, d, 1, 1));
         }
         for (int n : lengths) {
-            Checks.badArgument("44: length " + n, s, () -> s.sellPlain(1, 0, 0, 0, n, 1));
-            Checks.badArgument("45: length " + n, s, () -> s.sellVague(1, 0, 0, n, 1));
-            Checks.badArgument("46: length " + n, s, () -> s.sellDenial(1, 0, 0, 0, n, 1));
+            Checks.badArgument("44: length " + n, ProphecyShop::new, s -> s.sellPlain(1, 0, 0, 0, n, 1));
+            Checks.badArgument("45: length " + n, ProphecyShop::new, s -> s.sellVague(1, 0, 0, n, 1));
+            Checks.badArgument("46: length " + n, ProphecyShop::new, s -> s.sellDenial(1, 0, 0, 0, n, 1));
         }
         for (int p : prices) {
-            Checks.badArgument("44: price " + p, s, () -> s.sellPlain(1, 0, 0, 0, 1, p));
-            Checks.badArgument("45: price " + p, s, () -> s.sellVague(1, 0, 0, 1, p));
-            Checks.badArgument("46: price " + p, s, () -> s.sellDenial(1, 0, 0, 0, 1, p));
+            Checks.badArgument("44: price " + p, ProphecyShop::new, s -> s.sellPlain(1, 0, 0, 0, 1, p));
+            Checks.badArgument("45: price " + p, ProphecyShop::new, s -> s.sellVague(1, 0, 0, 1, p));
+            Checks.badArgument("46: price " + p, ProphecyShop::new, s -> s.sellDenial(1, 0, 0, 0, 1, p));
         }
     }
 
     private static void wrongStates() {
+        Checks.badState("44: a coin too much", ProphecyShop::new, s -> s.sellPlain(0, 0, 0, 0, 1, 81));
+        Checks.badState("45: a coin too much", ProphecyShop::new, s -> s.sellVague(0, 0, 0, 1, 81));
+        Checks.badState("46: a coin too much", ProphecyShop::new, s -> s.sellDenial(0, 0, 0, 0, 1, 81));
         ProphecyShop s = new ProphecyShop();
-        Checks.badState("44: a coin too much", s, () -> s.sellPlain(0, 0, 0, 0, 1, 81));
-        Checks.badState("45: a coin too much", s, () -> s.sellVague(0, 0, 0, 1, 81));
-        Checks.badState("46: a coin too much", s, () -> s.sellDenial(0, 0, 0, 0, 1, 81));
         for (int i = 0; i < 24; i++) {
             Checks.due("44: number", i % 3 == 0 ? s.sellPlain(1, 0, 0, 0, 1, 1)
                 : i % 3 == 1 ? s.sellVague(1, 0, 0, 1, 1) : s.sellDenial(1, 0, 0, 0, 1, 1), i);
         }
         Checks.due("18: most prophecies", s.prophecyCount(), 24);
         Checks.due("22: the last one", s.isDenial(23), true);
-        Checks.badState("44: the 25th", s, () -> s.sellPlain(1, 0, 0, 0, 1, 1));
-        Checks.badState("45: the 25th", s, () -> s.sellVague(1, 0, 0, 1, 1));
-        Checks.badState("46: the 25th", s, () -> s.sellDenial(1, 0, 0, 0, 1, 1));
+        Checks.badState("44: the 25th", () -> Shops.sold(24, 1), t -> t.sellPlain(1, 0, 0, 0, 1, 1));
+        Checks.badState("45: the 25th", () -> Shops.sold(24, 1), t -> t.sellVague(1, 0, 0, 1, 1));
+        Checks.badState("46: the 25th", () -> Shops.sold(24, 1), t -> t.sellDenial(1, 0, 0, 0, 1, 1));
         s.advance(1);
-        Checks.badState("44: decided ones count too", s, () -> s.sellPlain(1, 0, 0, 0, 1, 1));
+        Checks.due("44: decided ones count too", Checks.nameOfThrown(() -> s.sellPlain(1, 0, 0, 0, 1, 1)),
+            "IllegalStateException");
         s.undo();
         s.undo();
         Checks.due("44: one is taken back", s.sellPlain(0, 1, 1, 0, 1, 1), 23);
     }
 
     private static void orderOfExceptions() {
-        ProphecyShop s = new ProphecyShop();
-        Checks.missing("44: the number before the rest", s, () -> s.sellPlain(2, 0, 3, 100, 0, 1000));
-        Checks.missing("45: the number before the rest", s, () -> s.sellVague(2, 2, 100, 0, 1000));
-        Checks.missing("46: the number before the rest", s, () -> s.sellDenial(2, 0, -1, 100, 0, 1000));
-        Checks.missing("44: the number before the purse", s, () -> s.sellPlain(2, 0, 3, 0, 1, 999));
-        Checks.badArgument("44: the values before the purse", s, () -> s.sellPlain(2, 0, 0, 0, 1, 1000));
-        Checks.badArgument("45: the values before the purse", s, () -> s.sellVague(2, 0, 100, 1, 999));
-        Checks.badArgument("46: the values before the purse", s, () -> s.sellDenial(2, 0, 0, 0, 61, 999));
+        Checks.missing("44: the number before the rest", ProphecyShop::new, s -> s.sellPlain(2, 0, 3, 100, 0, 1000));
+        Checks.missing("45: the number before the rest", ProphecyShop::new, s -> s.sellVague(2, 2, 100, 0, 1000));
+        Checks.missing("46: the number before the rest", ProphecyShop::new, s -> s.sellDenial(2, 0, -1, 100, 0, 1000));
+        Checks.missing("44: the number before the purse", ProphecyShop::new, s -> s.sellPlain(2, 0, 3, 0, 1, 999));
+        Checks.badArgument("44: the values before the purse", ProphecyShop::new, s -> s.sellPlain(2, 0, 0, 0, 1, 1000));
+        Checks.badArgument("45: the values before the purse", ProphecyShop::new, s -> s.sellVague(2, 0, 100, 1, 999));
+        Checks.badArgument("46: the values before the purse", ProphecyShop::new, s -> s.sellDenial(2, 0, 0, 0, 61, 999));
     }
 
-    private static void noSuchProphecy() {
+    private static ProphecyShop twoSold() {
         ProphecyShop s = new ProphecyShop();
         s.sellPlain(0, 0, 0, 0, 1, 1);
         s.sellVague(0, 0, 0, 1, 1);
-        for (int n : FAR) {
-            noSuchProphecy(s, n);
-        }
-        noSuchProphecy(s, 2);
-        s.undo();
-        noSuchProphecy(s, 1);
+        return s;
     }
 
-    private static void noSuchProphecy(ProphecyShop s, int n) {
-        Checks.missing("19: " + n, s, () -> s.customerOf(n));
-        Checks.missing("20: " + n, s, () -> s.eventOf(n));
-        Checks.missing("21: " + n, s, () -> s.placeOf(n));
-        Checks.missing("22: " + n, s, () -> s.isDenial(n));
-        Checks.missing("23: " + n, s, () -> s.firstDay(n));
-        Checks.missing("24: " + n, s, () -> s.lastDay(n));
-        Checks.missing("25: " + n, s, () -> s.stateOf(n));
-        Checks.missing("26: " + n, s, () -> s.decidedOn(n));
-        Checks.missing("27: " + n, s, () -> s.refundOf(n));
-        Checks.missing("29: " + n, s, () -> s.placeInQueue(n));
-        Checks.missing("30: " + n, s, () -> s.answerFor(n));
-        Checks.missing("31: " + n, s, () -> s.expectedAnswer(n));
-        Checks.missing("41: " + n, s, () -> s.daysUntilDecided(n));
-        Checks.missing("42: " + n, s, () -> s.daysUntilRefunded(n));
-        Checks.missing("48: " + n, s, () -> s.ask(n));
-        Checks.missing("50: " + n, s, () -> s.writeProphecy(n));
+    private static void noSuchProphecy() {
+        for (int n : FAR) {
+            noSuchProphecy(SaleTest::twoSold, n);
+        }
+        noSuchProphecy(SaleTest::twoSold, 2);
+        noSuchProphecy(() -> {
+            ProphecyShop s = twoSold();
+            s.undo();
+            return s;
+        }, 1);
+    }
+
+    private static void noSuchProphecy(Supplier<ProphecyShop> made, int n) {
+        Checks.missing("19: " + n, made, s -> s.customerOf(n));
+        Checks.missing("20: " + n, made, s -> s.eventOf(n));
+        Checks.missing("21: " + n, made, s -> s.placeOf(n));
+        Checks.missing("22: " + n, made, s -> s.isDenial(n));
+        Checks.missing("23: " + n, made, s -> s.firstDay(n));
+        Checks.missing("24: " + n, made, s -> s.lastDay(n));
+        Checks.missing("25: " + n, made, s -> s.stateOf(n));
+        Checks.missing("26: " + n, made, s -> s.decidedOn(n));
+        Checks.missing("27: " + n, made, s -> s.refundOf(n));
+        Checks.missing("29: " + n, made, s -> s.placeInQueue(n));
+        Checks.missing("30: " + n, made, s -> s.answerFor(n));
+        Checks.missing("31: " + n, made, s -> s.expectedAnswer(n));
+        Checks.missing("41: " + n, made, s -> s.daysUntilDecided(n));
+        Checks.missing("42: " + n, made, s -> s.daysUntilRefunded(n));
+        Checks.missing("48: " + n, made, s -> s.ask(n));
+        Checks.missing("50: " + n, made, s -> s.writeProphecy(n));
     }
 
     private static void decidedOn() {

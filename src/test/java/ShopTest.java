@@ -43,10 +43,10 @@ public final class ShopTest {
         s.advance(1);
         Checks.due("14: the refund arrives after nine miles at speed three", s.purse(1), 250);
         Checks.due("14: ada gets nothing", s.purse(0), 50);
-        Checks.missing("14: below", s, () -> s.purse(-1));
-        Checks.missing("14: above", s, () -> s.purse(3));
-        Checks.missing("14: far below", s, () -> s.purse(Integer.MIN_VALUE));
-        Checks.missing("14: far above", s, () -> s.purse(Integer.MAX_VALUE));
+        Checks.missing("14: below", ProphecyShop::new, t -> t.purse(-1));
+        Checks.missing("14: above", ProphecyShop::new, t -> t.purse(3));
+        Checks.missing("14: far below", ProphecyShop::new, t -> t.purse(Integer.MIN_VALUE));
+        Checks.missing("14: far above", ProphecyShop::new, t -> t.purse(Integer.MAX_VALUE));
         ProphecyShop nobody = Checks.loaded("shop 1 1 1 1 1;event a;place a;");
         Checks.missing("14: nobody", nobody, () -> nobody.purse(0));
     }
@@ -65,13 +65,13 @@ public final class ShopTest {
         Checks.due("15: never in the last place", s.timesHappened(1, 2), 0);
         int[] wrong = {Integer.MIN_VALUE, -1, 3, 6, 36, Integer.MAX_VALUE};
         for (int number : wrong) {
-            Checks.missing("15: event " + number, s, () -> s.timesHappened(number, 0));
-            Checks.missing("15: place " + number, s, () -> s.timesHappened(0, number));
-            Checks.missing("16: event " + number, s, () -> s.hasHappened(number, 0, 0));
-            Checks.missing("16: place " + number, s, () -> s.hasHappened(0, number, 0));
+            Checks.missing("15: event " + number, ProphecyShop::new, t -> t.timesHappened(number, 0));
+            Checks.missing("15: place " + number, ProphecyShop::new, t -> t.timesHappened(0, number));
+            Checks.missing("16: event " + number, ProphecyShop::new, t -> t.hasHappened(number, 0, 0));
+            Checks.missing("16: place " + number, ProphecyShop::new, t -> t.hasHappened(0, number, 0));
         }
-        Checks.missing("15: no third event", s, () -> s.timesHappened(2, 0));
-        Checks.missing("16: no third event", s, () -> s.hasHappened(2, 0, 0));
+        Checks.missing("15: no third event", ProphecyShop::new, t -> t.timesHappened(2, 0));
+        Checks.missing("16: no third event", ProphecyShop::new, t -> t.hasHappened(2, 0, 0));
     }
 
     private static void hasHappened() {

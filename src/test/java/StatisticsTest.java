@@ -47,7 +47,7 @@ public final class StatisticsTest {
         Checks.due("35: refunded", s.countIn(ProphecyShop.REFUNDED), 1);
         int[] wrong = {Integer.MIN_VALUE, -1, 4, Integer.MAX_VALUE};
         for (int state : wrong) {
-            Checks.badArgument("35: state " + state, s, () -> s.countIn(state));
+            Checks.badArgument("35: state " + state, StatisticsTest::mixed, t -> t.countIn(state));
         }
         ProphecyShop fresh = new ProphecyShop();
         for (int state = 0; state < 4; state++) {
@@ -215,7 +215,7 @@ public final class StatisticsTest {
         }
         int[] wrong = {Integer.MIN_VALUE, -1, 301, Integer.MAX_VALUE};
         for (int d : wrong) {
-            Checks.badArgument("43: days " + d, s, () -> s.cashAfter(d));
+            Checks.badArgument("43: days " + d, StatisticsTest::mixed, t -> t.cashAfter(d));
         }
         s.advance(9);
         Checks.due("43: as foretold", s.cash(), 60);

@@ -137,8 +137,9 @@ public final class TextTest {
         Checks.due("2: no more, but nothing is fine", s.append(0, 0, 0, 0, 0), 800);
         for (int at = 0; at < 5; at++) {
             int p = at;
-            Checks.badState("2: a byte too much in parameter " + p, s, () -> s.append(p == 0 ? 1 : 0,
-                p == 1 ? 256 : 0, p == 2 ? 65536 : 0, p == 3 ? 1 << 24 : 0, p == 4 ? -128 << 24 : 0));
+            Checks.due("2: a byte too much in parameter " + p, Checks.nameOfThrown(() -> s.append(p == 0 ? 1 : 0,
+                p == 1 ? 256 : 0, p == 2 ? 65536 : 0, p == 3 ? 1 << 24 : 0, p == 4 ? -128 << 24 : 0)),
+                "IllegalStateException");
         }
         Checks.due("2: the text is as long as before", s.truncate(0), 800);
     }

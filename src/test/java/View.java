@@ -1,3 +1,5 @@
+import java.util.NoSuchElementException;
+
 /** Everything that the calls without a change tell of a shop, as one text. */
 final class View {
     private View() {
@@ -16,12 +18,14 @@ final class View {
         for (int state = 0; state < 4; state++) {
             v.append(" in").append(state).append(' ').append(s.countIn(state));
         }
-        for (int c = 0; c < s.customerCount(); c++) {
+        int customers = s.customerCount();
+        for (int c = 0; c < customers; c++) {
             v.append(" purse ").append(s.purse(c));
         }
         addOwls(v, s);
         addHappenings(v, s);
-        for (int p = 0; p < s.prophecyCount(); p++) {
+        int prophecies = s.prophecyCount();
+        for (int p = 0; p < prophecies; p++) {
             addProphecy(v, s, p);
         }
         return v.toString();
@@ -36,6 +40,35 @@ final class View {
         return v.toString();
     }
 
+    /**
+     * All that can be seen of a shop, down to its oldest change and its slots, which leaves the shop undone.
+     * With 24 prophecies and 8 changes it makes some 400 calls of the 512.
+     */
+    static String ofAll(ProphecyShop s) {
+        StringBuilder v = new StringBuilder(of(s));
+        v.append(" finds ").append(s.findCustomer());
+        for (int left = s.undoCount(); left > 0; left--) {
+            s.undo();
+            addBrief(v.append("\nundone: "), s);
+        }
+        for (int slot = 0; slot < 2; slot++) {
+            v.append("\nslot ").append(slot).append(": ");
+            try {
+                s.restore(slot);
+                addBrief(v, s);
+            } catch (NoSuchElementException e) {
+                v.append("empty");
+            }
+        }
+        return v.toString();
+    }
+
+    private static void addBrief(StringBuilder v, ProphecyShop s) {
+        v.append(s.day()).append(' ').append(s.cash()).append(' ').append(s.prophecyCount());
+        v.append(' ').append(s.queueLength()).append(' ').append(s.handledRequests());
+        v.append(' ').append(s.countIn(ProphecyShop.OPEN)).append(' ').append(s.timesHappened(0, 0));
+    }
+
     private static void addOwls(StringBuilder v, ProphecyShop s) {
         for (int owl = 0; owl < 5; owl++) {
             try {
@@ -47,10 +80,13 @@ final class View {
     }
 
     private static void addHappenings(StringBuilder v, ProphecyShop s) {
-        for (int event = 0; event < s.eventCount(); event++) {
-            for (int place = 0; place < s.placeCount(); place++) {
+        int events = s.eventCount();
+        int places = s.placeCount();
+        int day = s.day();
+        for (int event = 0; event < events; event++) {
+            for (int place = 0; place < places; place++) {
                 v.append(" times ").append(s.timesHappened(event, place));
-                v.append(s.hasHappened(event, place, s.day()) ? "!" : "");
+                v.append(s.hasHappened(event, place, day) ? "!" : "");
             }
         }
     }
@@ -58,8 +94,9 @@ final class View {
     private static void addProphecy(StringBuilder v, ProphecyShop s, int p) {
         v.append("\nprophecy ").append(p).append(' ').append(s.customerOf(p)).append(' ').append(s.eventOf(p));
         v.append(' ').append(s.placeOf(p)).append(' ').append(s.isDenial(p)).append(' ').append(s.firstDay(p));
-        v.append('-').append(s.lastDay(p)).append(" state ").append(s.stateOf(p));
-        if (s.stateOf(p) != ProphecyShop.OPEN) {
+        int state = s.stateOf(p);
+        v.append('-').append(s.lastDay(p)).append(" state ").append(state);
+        if (state != ProphecyShop.OPEN) {
             v.append(" on ").append(s.decidedOn(p));
         }
         v.append(" refund ").append(s.refundOf(p)).append(" place ").append(s.placeInQueue(p));
