@@ -267,13 +267,15 @@ public final class CounterEdgeTest {
     /** NO_CASH: the cash is less than the refund. */
     private static void cashIsGone() {
         for (int missing = -1; missing <= 1; missing++) {
-            ProphecyShop s = Checks.loaded("shop " + (20 - missing) + " 9 9 200 200;event a;place g;customer m 99 1;owl 1;");
+            ProphecyShop s = Checks.loaded("shop " + (20 - missing)
+                + " 9 9 200 200;event a;place g;customer m 99 1;owl 1;");
             s.sellPlain(0, 0, 0, 0, 1, 20);
             s.ask(0);
             s.advance(1);
             boolean paid = missing <= 0;
             Checks.due("30: coins missing " + missing, s.answerFor(0), paid ? ProphecyShop.PAID : ProphecyShop.NO_CASH);
-            Checks.due("25: coins missing " + missing, s.stateOf(0), paid ? ProphecyShop.REFUNDED : ProphecyShop.FAILED);
+            Checks.due("25: coins missing " + missing, s.stateOf(0),
+                paid ? ProphecyShop.REFUNDED : ProphecyShop.FAILED);
             Checks.due("9: coins missing " + missing, s.cash(), paid ? -missing : 39);
             Checks.due("37: coins missing " + missing, s.refundTotal(), paid ? 40 : 0);
             Checks.due("32: coins missing " + missing, s.idleOwls(), paid ? 0 : 1);
@@ -302,7 +304,7 @@ public final class CounterEdgeTest {
     /** The first of the reasons that apply, for each pair of them. */
     private static void reasonsInOrder() {
         // Refunds of twice the price, which the shop has not got, and no grace.
-        ProphecyShop s = Checks.loaded("shop 0 9 0 200 200;event a;event b;place g;customer m 99 1;customer n 99 30;owl 1;");
+        ProphecyShop s = Checks.loaded("shop 0 9 0 200 200;event a;event b;place g;customer m 99 1;owl 1;");
         s.sellPlain(0, 0, 0, 0, 60, 5);
         Checks.due("31: open before no cash", s.expectedAnswer(0), ProphecyShop.STILL_OPEN);
         s.happen(0, 0);
@@ -348,7 +350,8 @@ public final class CounterEdgeTest {
     /** Or the next request would be PAID, but no owl is idle. */
     private static void noOwlIdle() {
         for (int owls = 0; owls <= 5; owls++) {
-            ProphecyShop s = Checks.loaded("shop 0 9 9 100 100;event a;place g;customer m 99 30;" + "owl 1;".repeat(owls));
+            ProphecyShop s = Checks.loaded("shop 0 9 9 100 100;event a;place g;customer m 99 30;"
+                + "owl 1;".repeat(owls));
             for (int p = 0; p < 6; p++) {
                 s.sellPlain(0, 0, 0, 0, 1, 1);
             }

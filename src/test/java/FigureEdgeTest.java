@@ -210,7 +210,8 @@ public final class FigureEdgeTest {
     }
 
     private static void coinsOfTextsUndoAndSlots() {
-        ProphecyShop s = Checks.after("sell ada plain rain inn 0 1 80; sell ben vague war 0 1 99; pass 1; ask 0; ask 1; pass 1;");
+        ProphecyShop s = Checks.after("sell ada plain rain inn 0 1 80; sell ben vague war 0 1 99; pass 1; ask 0; ask 1;"
+            + "pass 1;");
         Checks.due("40: owls on their way", s.contradictions(), 0);
         s.save(0);
         s.advance(60);
@@ -335,8 +336,9 @@ public final class FigureEdgeTest {
             Checks.due("42: the last but one", s.daysUntilRefunded(last - 1), declined + 241);
             Checks.due("42: the last, after " + declined, s.daysUntilRefunded(last), want[declined]);
             Checks.due("43: before the last", s.cashAfter(256 + declined), declined + 10);
-            Checks.due("43: after the last", s.cashAfter(257 + declined), want[declined] == NONE ? declined + 10 : declined);
-            Checks.due("43: nothing more", s.cashAfter(300), want[declined] == NONE ? declined + 10 : declined);
+            int left = declined + (want[declined] == NONE ? 10 : 0);
+            Checks.due("43: after the last", s.cashAfter(257 + declined), left);
+            Checks.due("43: nothing more", s.cashAfter(300), left);
             Shops.passTo(s, 256 + declined);
             Checks.due("25: not yet", s.stateOf(last), ProphecyShop.FAILED);
             Checks.due("42: tomorrow", s.daysUntilRefunded(last), want[declined] == NONE ? NONE : 1);
@@ -384,7 +386,8 @@ public final class FigureEdgeTest {
         int[] wrong = {MIN, -1, 301, 302, 557, MAX};
         for (int days : wrong) {
             Checks.badArgument("43: days " + days, ProphecyShop::new, s -> s.cashAfter(days));
-            Checks.badArgument("43: days " + days + " on the last day", () -> Shops.onDay(9999), s -> s.cashAfter(days));
+            Checks.badArgument("43: days " + days + " on the last day", () -> Shops.onDay(9999),
+                s -> s.cashAfter(days));
         }
         int[] right = {0, 1, 299, 300};
         for (int days : right) {
@@ -419,7 +422,8 @@ public final class FigureEdgeTest {
     /** Forecasts do not change anything. */
     private static void forecastsChangeNothing() {
         Supplier<ProphecyShop> made = () -> {
-            ProphecyShop s = Checks.after("sell ben plain rain inn 0 1 10; sell ada plain rain mill 0 9 9; ask 0; pass 1;");
+            ProphecyShop s = Checks.after("sell ben plain rain inn 0 1 10; sell ada plain rain mill 0 9 9; ask 0;"
+                + "pass 1;");
             s.save(1);
             s.ask(1);
             s.happen(0, 0);

@@ -164,7 +164,8 @@ public final class ModelTest {
             Model.Flight f = m.flights[i];
             boolean outward = f != null && f.arrival > m.day;
             idle += f == null ? 1 : 0;
-            addLook(looks, "owlDays", () -> shop().owlDays(owl), f == null ? 0 : (outward ? f.arrival : f.home) - m.day);
+            int days = f == null ? 0 : (outward ? f.arrival : f.home) - m.day;
+            addLook(looks, "owlDays", () -> shop().owlDays(owl), days);
             addLook(looks, "owlCoins", () -> shop().owlCoins(owl), outward ? f.coins : 0);
         }
         addLook(looks, "idleOwls", () -> shop().idleOwls(), idle);
@@ -244,7 +245,8 @@ public final class ModelTest {
         addLook(looks, "placeInQueue", () -> shop().placeInQueue(p), new ArrayList<>(model.state.queue).indexOf(p));
         addLook(looks, "answerFor", () -> shop().answerFor(p), want.answer);
         addLook(looks, "expectedAnswer", () -> shop().expectedAnswer(p), model.state.expected(want));
-        addLook(looks, "daysUntilDecided", () -> shop().daysUntilDecided(p), open ? want.last + 1 - model.state.day : 0);
+        addLook(looks, "daysUntilDecided", () -> shop().daysUntilDecided(p),
+            open ? want.last + 1 - model.state.day : 0);
         looks.add(() -> Checks.due(run + ": daysUntilRefunded", shop().daysUntilRefunded(p), daysUntilRefunded(p)));
         String written = model.facts.customers.get(want.customer) + (want.kind.equals("never") ? ":!" : ":")
             + model.facts.events.get(want.event) + "@" + (want.place < 0 ? "*" : model.facts.places.get(want.place))

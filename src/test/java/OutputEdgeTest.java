@@ -87,7 +87,8 @@ public final class OutputEdgeTest {
             written("50: names of " + c, s, s.writeProphecy(c), want);
         }
         ProphecyShop first = new ProphecyShop();
-        Checks.script(first, "sell ada plain rain inn 0 1 1; sell ben vague war 0 1 1; sell cai never rain mill 1 2 3;");
+        Checks.script(first, "sell ada plain rain inn 0 1 1; sell ben vague war 0 1 1;"
+            + "sell cai never rain mill 1 2 3;");
         written("50: a plain one", first, first.writeProphecy(0), "ada:rain@inn 0-0");
         written("50: a vague one", first, first.writeProphecy(1), "ben:war@* 0-0");
         written("50: a denial", first, first.writeProphecy(2), "cai:!rain@mill 1-2");
@@ -279,25 +280,13 @@ public final class OutputEdgeTest {
     /** At most 8 changes can be undone; an older one is forgotten. */
     private static void eightChanges() {
         for (int changes = 7; changes <= 10; changes++) {
-            String[] states = new String[changes + 1];
-            ProphecyShop s = new ProphecyShop();
-            for (int i = 0; i <= changes; i++) {
-                ProphecyShop twin = new ProphecyShop();
-                for (int j = 0; j < i; j++) {
-                    change(twin, j);
-                }
-                states[i] = View.ofState(twin);
-                if (i < changes) {
-                    change(s, i);
-                }
-            }
-            Checks.due("54: all changes are made", View.ofState(s), states[changes]);
-            for (int i = changes - 1; i >= Math.max(0, changes - 8); i--) {
+            ProphecyShop s = made(changes);
+            int oldest = Math.max(0, changes - 8);
+            for (int i = changes - 1; i >= oldest; i--) {
                 s.undo();
-                Checks.due("54: without change " + i + " of " + changes, s.day() + " " + s.cash() + " " + s.queueLength(),
-                    brief(i));
+                Checks.due("54: without change " + i + " of " + changes, brief(s), brief(made(i)));
             }
-            Checks.due("54: the oldest that is left", View.ofState(s), states[Math.max(0, changes - 8)]);
+            Checks.due("54: without the last " + (changes - oldest), View.ofState(s), View.ofState(made(oldest)));
         }
     }
 
@@ -311,12 +300,16 @@ public final class OutputEdgeTest {
         }
     }
 
-    private static String brief(int changes) {
+    private static ProphecyShop made(int changes) {
         ProphecyShop s = new ProphecyShop();
         for (int i = 0; i < changes; i++) {
             change(s, i);
         }
-        return s.day() + " " + s.cash() + " " + s.queueLength();
+        return s;
+    }
+
+    private static String brief(ProphecyShop s) {
+        return s.day() + " " + s.cash() + " " + s.queueLength() + " " + s.prophecyCount() + " " + s.liveliestPlace();
     }
 
     /** All that there is at most: 24 prophecies, 24 requests, 60 happenings, eight purses, five flights. */
@@ -397,7 +390,8 @@ public final class OutputEdgeTest {
         for (int slot : wrong) {
             Checks.missing("55: slot " + slot, () -> Shops.onDay(1), s -> s.save(slot));
             Checks.missing("56: slot " + slot, () -> Shops.onDay(1), s -> s.restore(slot));
-            Checks.missing("56: slot " + slot + " when the others are full", OutputEdgeTest::saved, s -> s.restore(slot));
+            Checks.missing("56: slot " + slot + " when the others are full", OutputEdgeTest::saved,
+                s -> s.restore(slot));
             Checks.missing("55: slot " + slot + " when the others are full", OutputEdgeTest::saved, s -> s.save(slot));
         }
     }

@@ -147,8 +147,8 @@ public final class SaleEdgeTest {
         wrongNumber(kind, ProphecyShop::new, 0, 0, 3);
         wrongNumber(kind, Shops::smallest, 0, 0, 0);
         // Each number has its own bound: two customers, three events, four places, and the other way round.
-        Supplier<ProphecyShop> rising = () -> Checks.loaded("shop 1 1 1 1 1;event a;event b;event c;place a;place b;place c;"
-            + "place d;customer a 9 1;customer b 9 1;");
+        Supplier<ProphecyShop> rising = () -> Checks.loaded("shop 1 1 1 1 1;event a;event b;event c;place a;place b;"
+            + "place c;place d;customer a 9 1;customer b 9 1;");
         wrongNumber(kind, rising, 2, 0, 0);
         wrongNumber(kind, rising, 0, 3, 0);
         wrongNumber(kind, rising, 0, 0, 4);
@@ -220,7 +220,8 @@ public final class SaleEdgeTest {
     private static void prices(Kind kind) {
         int[] wrong = {MIN, -1, 0, 1000, 1001, MAX};
         for (int price : wrong) {
-            Checks.badArgument(kind.promise + ": price " + price, Shops::single, s -> kind.sell(s, 0, 0, 0, 0, 1, price));
+            Checks.badArgument(kind.promise + ": price " + price, Shops::single,
+                s -> kind.sell(s, 0, 0, 0, 0, 1, price));
         }
         int[] right = {1, 2, 998, 999};
         for (int price : right) {
@@ -236,8 +237,8 @@ public final class SaleEdgeTest {
     private static void purse(Kind kind) {
         int[] purses = {0, 1, 2, 500, 998, 999, 1000};
         for (int purse : purses) {
-            Supplier<ProphecyShop> made = () -> Checks.loaded("shop 0 1 1 1 1;event a;place a;customer a " + purse + " 1;"
-                + "customer b 9999 1;");
+            Supplier<ProphecyShop> made = () -> Checks.loaded("shop 0 1 1 1 1;event a;place a;customer a "
+                + purse + " 1;customer b 9999 1;");
             for (int price = Math.max(1, purse - 1); price <= Math.min(999, purse + 1); price++) {
                 int coins = price;
                 if (price <= purse) {

@@ -124,7 +124,8 @@ public final class SaleTest {
         Checks.missing("44: the number before the purse", ProphecyShop::new, s -> s.sellPlain(2, 0, 3, 0, 1, 999));
         Checks.badArgument("44: the values before the purse", ProphecyShop::new, s -> s.sellPlain(2, 0, 0, 0, 1, 1000));
         Checks.badArgument("45: the values before the purse", ProphecyShop::new, s -> s.sellVague(2, 0, 100, 1, 999));
-        Checks.badArgument("46: the values before the purse", ProphecyShop::new, s -> s.sellDenial(2, 0, 0, 0, 61, 999));
+        Checks.badArgument("46: the values before the purse", ProphecyShop::new,
+            s -> s.sellDenial(2, 0, 0, 0, 61, 999));
     }
 
     private static ProphecyShop twoSold() {

@@ -47,7 +47,8 @@ public final class ScriptTest {
 
     private static void commandsAreTheMethods() {
         ProphecyShop s = run("sell ada plain rain mill 2 3 50; sell ben vague war 0 60 100;"
-            + "sell cai never rain pass 99 1 20; happen war inn; ask 1; pass 2; happen rain mill; ask 0; ask 2; pass 60;", 10);
+            + "sell cai never rain pass 99 1 20; happen war inn; ask 1; pass 2; happen rain mill; ask 0; ask 2;"
+            + "pass 60;", 10);
         ProphecyShop t = new ProphecyShop();
         t.sellPlain(0, 0, 1, 2, 3, 50);
         t.sellVague(1, 1, 0, 60, 100);

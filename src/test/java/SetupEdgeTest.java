@@ -174,7 +174,8 @@ public final class SetupEdgeTest {
         int[] distances = {1, 2, 8, 9, 10, 17, 18, 19, 29, 30};
         for (int speed = 1; speed <= 9; speed++) {
             for (int distance : distances) {
-                ProphecyShop s = good("shop 9 1 1 100 100;event a;place a;customer a 9 " + distance + ";owl " + speed + ";");
+                String rest = distance + ";owl " + speed + ";";
+                ProphecyShop s = good("shop 9 1 1 100 100;event a;place a;customer a 9 " + rest);
                 s.sellPlain(0, 0, 0, 0, 1, 7);
                 s.ask(0);
                 s.advance(1);
@@ -210,8 +211,8 @@ public final class SetupEdgeTest {
     /** Names are words of 1 to 6 lowercase letters. */
     private static void name(String before, String after, String next) {
         int at = before.length();
-        String[] right = {"a", "z", "zy", "azaz", "zzzzz", "aaaaaa", "zzzzzz", "mnopqr", "shop", "event", "place", "owl",
-            "sell"};
+        String[] right = {"a", "z", "zy", "azaz", "zzzzz", "aaaaaa", "zzzzzz", "mnopqr", "shop", "event", "place",
+            "owl", "sell"};
         for (String name : right) {
             good(before + name + after);
         }
@@ -219,7 +220,8 @@ public final class SetupEdgeTest {
         for (String name : wrong) {
             error(RANGE, at, before + name + after);
         }
-        String[] none = {"0", "1", "1a", "A", "`", "{", "@", "[", "_", "-a", ";", "(", ")", "\u00e4", "\u0001", "\u007f"};
+        String[] none = {"0", "1", "1a", "A", "`", "{", "@", "[", "_", "-a", ";", "(", ")", "\u00e4", "\u0001",
+            "\u007f"};
         for (String name : none) {
             error(SYNTAX, at, before + name + after);
         }
@@ -444,8 +446,8 @@ public final class SetupEdgeTest {
     // ---- the shop before and after
 
     private static ProphecyShop busy() {
-        ProphecyShop s = Checks.after("sell ben plain rain inn 0 1 30; sell ada vague war 0 9 5; happen rain mill; pass 1;"
-            + "ask 0; pass 1;");
+        ProphecyShop s = Checks.after("sell ben plain rain inn 0 1 30; sell ada vague war 0 9 5; happen rain mill;"
+            + "pass 1; ask 0; pass 1;");
         s.save(1);
         s.ask(1);
         s.sellDenial(2, 1, 1, 0, 9, 20);
@@ -458,16 +460,13 @@ public final class SetupEdgeTest {
     private static void errorLeavesAll() {
         String[] texts = {"", "shop", "shop 7 7 7 7 7;event x;place y;customer z 7 7;owl 7;owl 10;",
             "shop 7 7 7 7 7;event x;place y;customer z 7 7;owl 7;!", "pass 1;"};
+        String untouched = View.ofAll(busy());
         for (String text : texts) {
-            ProphecyShop failed = busy();
-            Checks.put(failed, text);
-            Checks.due("4: an error in " + text, failed.load() == 0, false);
-            ProphecyShop other = busy();
-            Checks.put(other, "!");
-            other.runScript();
-            String wanted = View.ofAll(other).replaceAll("error 1 at 0", "");
-            String got = View.ofAll(failed).replaceAll("error \\d at " + failed.errorPosition(), "");
-            Checks.due("4: all stays after " + text, got, wanted);
+            ProphecyShop s = busy();
+            Checks.put(s, text);
+            Checks.due("4: an error in " + text, s.load() == 0, false);
+            String error = "error " + s.errorCode() + " at " + s.errorPosition();
+            Checks.due("4: all else stays after " + text, View.ofAll(s).replace(error, "error 0 at -1"), untouched);
         }
     }
 

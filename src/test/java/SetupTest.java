@@ -60,7 +60,8 @@ public final class SetupTest {
         s = good("shop 0 1 0 0 0;event event;place place;customer owl 0 1;owl 1;");
         Checks.due("4: keywords are names too", s.customerCount(), 1);
         Checks.due("9: no cash", s.cash(), 0);
-        s = good("\n \nshop\n007 0000000000000000000000001 5 100\n\n50 ; event\nrain ; place inn;\n customer ada 0080 04 ; \n");
+        s = good("\n \nshop\n007 0000000000000000000000001 5 100\n\n50 ; event\nrain ; place inn;\n"
+            + " customer ada 0080 04 ; \n");
         Checks.due("4: blanks and leading zeros", s.cash(), 7);
         Checks.due("4: purse with leading zeros", s.purse(0), 80);
         s = good("shop3 1 5 100 50;event rain;place inn;customer bo9 2;customer al 7 1;owl4;");

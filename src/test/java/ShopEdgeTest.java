@@ -62,8 +62,8 @@ public final class ShopEdgeTest {
         Checks.due("12: most", many.customerCount(), 8);
         Checks.due("32: most", many.idleOwls(), 5);
         // As many of each kind as of no other one.
-        ProphecyShop s = Checks.loaded("shop 1 1 1 1 1;event a;event b;place a;place b;place c;place d;customer a 1 1;owl 1;"
-            + "owl 1;owl 1;");
+        ProphecyShop s = Checks.loaded("shop 1 1 1 1 1;event a;event b;place a;place b;place c;place d;"
+            + "customer a 1 1;owl 1;owl 1;owl 1;");
         Checks.due("10: two", s.eventCount(), 2);
         Checks.due("11: four", s.placeCount(), 4);
         Checks.due("12: one", s.customerCount(), 1);
@@ -186,7 +186,8 @@ public final class ShopEdgeTest {
         s.happen(0, 0);
         Shops.passTo(s, 9999);
         s.happen(0, 0);
-        int[] never = {Integer.MIN_VALUE, -9999, -1, 1, 4, 6, 9998, 10000, 65536, Integer.MAX_VALUE - 1, Integer.MAX_VALUE};
+        int[] never = {Integer.MIN_VALUE, -9999, -1, 1, 4, 6, 9998, 10000, 65536, Integer.MAX_VALUE - 1,
+            Integer.MAX_VALUE};
         for (int day : never) {
             Checks.due("16: not on day " + day, s.hasHappened(0, 0, day), false);
         }
@@ -233,7 +234,8 @@ public final class ShopEdgeTest {
     /** Of several such places the one with the lowest number. */
     private static void liveliestOfSeveral() {
         int[][] happenings = {{1, 0, 0}, {0, 1, 0}, {0, 0, 1}, {1, 1, 0}, {0, 1, 1}, {1, 0, 1}, {1, 1, 1}, {2, 1, 0},
-            {1, 2, 0}, {2, 1, 1}, {1, 2, 1}, {1, 1, 2}, {2, 2, 1}, {1, 2, 2}, {2, 1, 2}, {2, 2, 2}, {0, 2, 1}, {0, 1, 2}};
+            {1, 2, 0}, {2, 1, 1}, {1, 2, 1}, {1, 1, 2}, {2, 2, 1}, {1, 2, 2}, {2, 1, 2}, {2, 2, 2}, {0, 2, 1},
+            {0, 1, 2}};
         int[] want = {0, 1, 2, 0, 1, 0, 0, 0, 1, 0, 1, 2, 0, 1, 0, 0, 1, 2};
         for (int i = 0; i < want.length; i++) {
             ProphecyShop byEvents = new ProphecyShop();

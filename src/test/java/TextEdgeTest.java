@@ -38,8 +38,9 @@ public final class TextEdgeTest {
         Supplier<ProphecyShop> loaded = () -> Checks.loaded("shop 100 2 5 100 50; event rain; event war; place inn;"
             + " place mill; place pass; customer ada 80 4; customer ben 300 9; customer cai 20 15; owl 3; owl 5;");
         Checks.due("1: as of its setup", View.ofAll(new ProphecyShop()), View.ofAll(loaded.get()));
-        String[] scripts = {"sell ada plain rain inn 0 1 80; sell ben never war mill 0 1 300; sell cai vague war 0 1 20;"
-            + "happen war mill; ask 0; ask 1; pass 1; ask 2;", "pass 1;", "pass 1;", "pass 1;", "pass 1;", "pass 1;"};
+        String[] scripts = {"sell ada plain rain inn 0 1 80; sell ben never war mill 0 1 300;"
+            + "sell cai vague war 0 1 20; happen war mill; ask 0; ask 1; pass 1; ask 2;",
+            "pass 1;", "pass 1;", "pass 1;", "pass 1;", "pass 1;"};
         ProphecyShop s = new ProphecyShop();
         ProphecyShop t = loaded.get();
         for (String script : scripts) {
@@ -109,7 +110,8 @@ public final class TextEdgeTest {
     /** The first parameter and the most significant byte come first, from each of the 20 places to the next. */
     private static void eachPlaceOfAppend() {
         for (int place = 0; place < 20; place++) {
-            ProphecyShop s = Checks.loaded("shop 1 1 1 1 1;event a;place a;customer ba 1 1;customer a 1 1;customer ab 1 1;");
+            ProphecyShop s = Checks.loaded("shop 1 1 1 1 1;event a;place a;customer ba 1 1;customer a 1 1;"
+                + "customer ab 1 1;");
             int[] four = new int[5];
             four[place / 4] |= 'a' << 24 - 8 * (place % 4);
             Checks.due("2: place " + place, s.append(four[0], four[1], four[2], four[3], four[4]), 1);
