@@ -42,7 +42,7 @@ final class View {
 
     /**
      * All that can be seen of a shop, down to its oldest change and its slots, which leaves the shop undone.
-     * With 24 prophecies and 8 changes it makes some 400 calls of the 512.
+     * With 24 prophecies and 8 changes it makes some 450 calls of the 512.
      */
     static String ofAll(ProphecyShop s) {
         StringBuilder v = new StringBuilder(of(s));
