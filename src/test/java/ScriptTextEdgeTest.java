@@ -14,6 +14,7 @@ public final class ScriptTextEdgeTest {
         leastAndMostOfEachNumber();
         names();
         namesOfAnotherSetup();
+        lastNames();
         cutOff();
         textsOfAllLengths();
         eachByte();
@@ -191,6 +192,32 @@ public final class ScriptTextEdgeTest {
         Checks.due("7: the name", nobody.errorPosition(), 17);
         Checks.due("5: names of an older setup", Checks.script(nobody, "happen rain inn;"), NONE);
         Checks.due("6: no such name", nobody.errorCode(), NAME);
+    }
+
+    /** The last name of each kind, where there are more of this kind than of the others. */
+    private static void lastNames() {
+        String customers = "customer a 9 1;customer b 9 1;customer c 9 1;customer d 9 1;customer e 9 1;customer f 9 1;"
+            + "customer g 9 1;customer h 9 1;";
+        String events = "event a;event b;event c;event d;event e;event f;";
+        String places = "place a;place b;place c;place d;place e;place f;";
+        lastNames("event a;place a;" + customers, "h", "a", "a");
+        lastNames(events + "place a;customer a 9 1;", "a", "f", "a");
+        lastNames("event a;" + places + "customer a 9 1;", "a", "a", "f");
+        lastNames(events + places + customers, "h", "f", "f");
+    }
+
+    private static void lastNames(String lines, String customer, String event, String place) {
+        ProphecyShop s = Checks.loaded("shop 1 1 1 1 1;" + lines);
+        String sell = "sell " + customer;
+        String pair = " " + event + " " + place;
+        Checks.due("5: the last names of " + lines, Checks.script(s, sell + " plain" + pair + " 0 1 1;" + sell + " vague "
+            + event + " 0 1 1;" + sell + " never" + pair + " 0 1 1; happen" + pair + "; ask 2;"), 5);
+        for (int p = 0; p < 3; p++) {
+            Checks.due("19: the last customer", s.customerOf(p), customer.charAt(0) - 'a');
+            Checks.due("20: the last event", s.eventOf(p), event.charAt(0) - 'a');
+            Checks.due("21: the last place", s.placeOf(p), p == 1 ? NONE : place.charAt(0) - 'a');
+            Checks.due("25: decided", s.stateOf(p), p == 2 ? ProphecyShop.FAILED : ProphecyShop.FULFILLED);
+        }
     }
 
     // ---- whole texts
